@@ -1,0 +1,59 @@
+import java.util.Objects;
+
+/** Counts what was asked, and prints each answer that is not the one that is due. */
+final class Check {
+    private static int asked = 0;
+    private static int wrong = 0;
+
+    interface Call {
+        Object get();
+    }
+
+    private Check() { }
+
+    static void same(String what, Object want, Object got) {
+        asked++;
+        if (!Objects.equals(plain(want), plain(got))) {
+            wrong++;
+            System.out.println(what + " answered " + got + ", due is " + want);
+        }
+    }
+
+    /** The very class counts: what the machine throws is of another one. */
+    static void fails(String what, Class<? extends Exception> want, Call call) {
+        Object got;
+        try {
+            got = call.get();
+        } catch (RuntimeException e) {
+            got = e.getClass();
+        }
+        same(what, want, got);
+    }
+
+    static void noProgram(String what, Call call) {
+        fails(what, IllegalStateException.class, call);
+    }
+
+    static void noIndex(String what, Call call) {
+        fails(what, IndexOutOfBoundsException.class, call);
+    }
+
+    static void noArgument(String what, Call call) {
+        fails(what, IllegalArgumentException.class, call);
+    }
+
+    static void end() {
+        System.out.println(asked + " answers, " + wrong + " wrong");
+        if (wrong > 0 || asked == 0) {
+            System.exit(1);
+        }
+    }
+
+    static int wrongs() {
+        return wrong;
+    }
+
+    private static Object plain(Object x) {
+        return x instanceof Integer i ? Long.valueOf(i) : x;
+    }
+}
