@@ -30,16 +30,23 @@ final class Check {
         same(what, want, got);
     }
 
-    static void noProgram(String what, Call call) {
-        fails(what, IllegalStateException.class, call);
+    /** The call must throw this, and change nothing that can be asked. */
+    static void refused(MarkovBench bench, String what, Class<? extends Exception> want, Call call) {
+        String before = Tape.picture(bench);
+        fails(what, want, call);
+        same("what stands behind the refused " + what, before, Tape.picture(bench));
     }
 
-    static void noIndex(String what, Call call) {
-        fails(what, IndexOutOfBoundsException.class, call);
+    static void noState(MarkovBench bench, String what, Call call) {
+        refused(bench, what, IllegalStateException.class, call);
     }
 
-    static void noArgument(String what, Call call) {
-        fails(what, IllegalArgumentException.class, call);
+    static void noIndex(MarkovBench bench, String what, Call call) {
+        refused(bench, what, IndexOutOfBoundsException.class, call);
+    }
+
+    static void noArgument(MarkovBench bench, String what, Call call) {
+        refused(bench, what, IllegalArgumentException.class, call);
     }
 
     static void end() {

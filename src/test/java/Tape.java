@@ -35,4 +35,15 @@ final class Tape {
         put(bench, text);
         return bench.test(state) == 0 ? bench.result() : null;
     }
+
+    /** All that can be asked without an argument, as one text. */
+    static String picture(MarkovBench bench) {
+        StringBuilder all = new StringBuilder("digest " + bench.digest());
+        all.append(", error at ").append(bench.errorAt());
+        all.append(", result ").append(bench.result()).append(", played");
+        for (int what = 0; what < 4; what++) {
+            all.append(' ').append(bench.played(what));
+        }
+        return all.toString();
+    }
 }
