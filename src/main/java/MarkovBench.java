@@ -193,7 +193,7 @@ public final class MarkovBench {
     public int value(int state, int variable) throws IndexOutOfBoundsException {
         checkState(state);
         checkIndex(variable, program.variableCount);
-        return states.values[state * MOST_VARIABLES + variable];
+        return entry(states.values, state * MOST_VARIABLES + variable);
     }
 
     public int choices(int state) throws IndexOutOfBoundsException {
@@ -262,7 +262,7 @@ public final class MarkovBench {
         checkState(state);
         Strategy asked = strategies[strategy];
         checkRange(left, 0, asked.steps);
-        return asked.worths[left * MOST_STATES + state];
+        return entry(asked.worths, left * MOST_STATES + state);
     }
 
     public long brings(int strategy, int gain) throws IndexOutOfBoundsException {
@@ -515,6 +515,15 @@ public final class MarkovBench {
         }
     }
 
+    // Reads of rows at places that other rows tell go through these, so that none can miss a row.
+    private static int entry(int[] row, int index) {
+        return index >= 0 && index < row.length ? row[index] : 0;
+    }
+
+    private static long entry(long[] row, int index) {
+        return index >= 0 && index < row.length ? row[index] : 0;
+    }
+
     /** The tokens of a tape, with one of the kind END behind them. */
     private static final class Tokens {
         private final int[] kinds = new int[MOST_BYTES + 1];
@@ -681,7 +690,7 @@ public final class MarkovBench {
                     height = push(height, operands[i]);
                 } else if (operation == NAME) {
                     int at = from + (int) operands[i];
-                    height = push(height, at >= 0 && at < values.length ? values[at] : 0);
+                    height = push(height, entry(values, at));
                 } else if (isUnary(operation)) {
                     if (height >= 1) {
                         stack[height - 1] = unary(operation, stack[height - 1]);
@@ -1011,7 +1020,7 @@ public final class MarkovBench {
             expect(WHEN);
             int when = readExpression();
             if (isMeaningRight()) {
-                program.addCommand(tokens.contentOf(name), tokens.starts[name], when);
+                program.addCommand(tokens.contentOf(name), entry(tokens.starts, name), when);
             }
             int n = 0;
             do {
@@ -1265,31 +1274,31 @@ public final class MarkovBench {
         }
 
         int commandOf(int state, int choice) {
-            return commands[state * MOST_COMMANDS + choice];
+            return entry(commands, state * MOST_COMMANDS + choice);
         }
 
         int branchesOf(int state, int choice) {
-            return program.branchCounts[commandOf(state, choice)];
+            return entry(program.branchCounts, commandOf(state, choice));
         }
 
         int chanceOf(int state, int choice, int branch) {
-            return program.chances[commandOf(state, choice) * MOST_BRANCHES + branch];
+            return entry(program.chances, commandOf(state, choice) * MOST_BRANCHES + branch);
         }
 
         int targetOf(int state, int choice, int branch) {
-            return targets[(state * MOST_COMMANDS + choice) * MOST_BRANCHES + branch];
+            return entry(targets, (state * MOST_COMMANDS + choice) * MOST_BRANCHES + branch);
         }
 
         long gainOf(int state, int choice, int gain) {
-            int command = program.gainCommands[gain];
+            int command = entry(program.gainCommands, gain);
             if (command >= 0 && command != commandOf(state, choice)) {
                 return 0;
             }
-            return gains[state * MOST_GAINS + gain];
+            return entry(gains, state * MOST_GAINS + gain);
         }
 
         boolean isGoal(int state) {
-            return choiceCounts[state] < 0;
+            return entry(choiceCounts, state) < 0;
         }
 
         long addToDigest(long start) {
@@ -1321,6 +1330,7 @@ public final class MarkovBench {
         }
 
         private void addChoice(int state, int command) {
+            // No more choices than commands, each of which comes here once.
             int choice = state * MOST_COMMANDS + choiceCounts[state];
             commands[choice] = command;
             choiceCounts[state]++;
@@ -1395,7 +1405,7 @@ public final class MarkovBench {
         private int goalChance;
 
         int takenIn(int state, int left) {
-            return taken[(left - 1) * MOST_STATES + state];
+            return entry(taken, (left - 1) * MOST_STATES + state);
         }
     }
 
@@ -1511,7 +1521,7 @@ public final class MarkovBench {
         private long later(long[] row, int from, int state, int choice) {
             long sum = 0;
             for (int branch = 0; branch < states.branchesOf(state, choice); branch++) {
-                long number = row[from + states.targetOf(state, choice, branch)];
+                long number = entry(row, from + states.targetOf(state, choice, branch));
                 sum += states.chanceOf(state, choice, branch) * number;
             }
             return sum / WHOLE_CHANCE;
