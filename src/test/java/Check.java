@@ -15,7 +15,7 @@ final class Check {
         asked++;
         if (!Objects.equals(plain(want), plain(got))) {
             wrong++;
-            System.out.println(what + " answered " + got + ", due is " + want);
+            System.out.println(Sentences.now() + what + " answered " + got + ", due is " + want);
         }
     }
 
@@ -58,6 +58,10 @@ final class Check {
 
     static int wrongs() {
         return wrong;
+    }
+
+    static int asked() {
+        return asked;
     }
 
     private static Object plain(Object x) {
