@@ -33,7 +33,8 @@ final class MeaningEdges {
         // Items with one error each, marked, as they stand behind X and A.
         String[] items = {"goal ^y; ", "gain ^x = 1; ", "var v = 0 in 0 to ^100; ",
             "do ^b when 1 go 99; ", "do c when 1 go 100 set ^z = 1; ", "gain g per ^none = 1; ",
-            "do d when 1 go 50 also go ^0; ", "do e when 1 go 20 also go 20 also go 20 also go 20 also ^go 20; ",
+            "do d when 1 go 50 also go ^0; ",
+            "do e when 1 go 20 also go 20 also go 20 also go 20 also ^go 20; ",
             "var w = ^7 in 8 to 9; ", "do f when 1 go 100 set x = 1, ^x = 2; "};
         int[] errors = {2, 3, 5, 6, 2, 2, 5, 4, 5, 3};
         for (int i = 0; i < items.length; i++) {

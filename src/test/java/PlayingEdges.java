@@ -18,6 +18,11 @@ final class PlayingEdges {
             + "do roll when 1 go 10 set x = 0 also go 20 set x = 1 also go 30 set x = 2 also go 40 set x = "
             + "3;";
 
+    // In state 0, with 1 left quick is taken, with 2 left risk, which stays there by 0 to 98.
+    private static final String RISK = "var x = 0 in 0 to 1; gain g = 1000 * x; gain now per quick = 3; do "
+            + "quick when x = 0 go 100; do risk when x = 0 go 99 also go 1 set x = 1; do rest when x = 1 "
+            + "go 100;";
+
     private PlayingEdges() { }
 
     static void run() {
@@ -61,9 +66,9 @@ final class PlayingEdges {
     }
 
     private static void die() {
-        Sentences.of("Terms", "Playing. A die has a number z of 64 bits. A throw: z becomes z * 6364136223846793005 "
-                + "+ 1442695040888963407; its result is the remainder of the highest 31 bits of z (z shifted "
-                + "right by 33 bits, filled with 0) by 100.");
+        Sentences.of("Terms", "Playing. A die has a number z of 64 bits. A throw: z becomes z * "
+                + "6364136223846793005 + 1442695040888963407; its result is the remainder of the highest "
+                + "31 bits of z (z shifted right by 33 bits, filled with 0) by 100.");
         long[] starts = {0, 1, -1, Long.MIN_VALUE, Long.MAX_VALUE, 1L << 33, (1L << 33) - 1, -77};
         MarkovBench bench = Tape.compiled(DICE);
         bench.solve(1);
@@ -121,7 +126,13 @@ final class PlayingEdges {
             Check.same("it ends in 3", 3, late.value(late.play(all - 1), 0));
             Check.same("so many steps of " + all, steps[all - 1], late.played(0));
         }
-        // With all of 3 left a choice of its own, with 2 and 1 left another one, in the same state.
+        MarkovBench risky = risky();
+        risky.seed(before(98L << 33));
+        Check.same("risk leads back", 0, risky.play(0));
+        Check.same("and then quick is taken", 3, risky.played(2));
+        risky.seed(before(99L << 33));
+        Check.same("risk leads on", 1, risky.value(risky.play(0), 0));
+        Check.same("and then rest is taken", 1000, risky.played(1));
         MarkovBench turn = Tape.compiled("var x = 0 in 0 to 2; var t = 0 in 0 to 3; gain g = 9 * (x = 2); "
                 + "gain now per stay = 1; do stay when x < 2 go 100; do on when x < 2 go 100 set x = x + 1; "
                 + "do last when x = 2 go 100;");
@@ -132,6 +143,16 @@ final class PlayingEdges {
         Check.same("stays, since two are too few", 0, turn.value(turn.play(0), 0));
         Check.same("goes on with three", 2, turn.value(turn.play(1), 0));
         Check.same("for the great gain", 9, turn.played(1));
+    }
+
+    private static MarkovBench risky() {
+        MarkovBench bench = Tape.compiled(RISK);
+        bench.weigh(0, 1);
+        bench.weigh(1, 1);
+        bench.solve(2);
+        Check.same("with 2 left", 1, bench.takes(0, 0, 2));
+        Check.same("with 1 left", 0, bench.takes(0, 0, 1));
+        return bench;
     }
 
     private static void ends() {
@@ -229,6 +250,12 @@ final class PlayingEdges {
             Check.same("cut with " + steps, chance, cut.reach(steps, true));
             chance = (33 * chance + 67 * 1000000) / 100;
         }
+        MarkovBench many = Tape.compiled("var x = 0 in 0 to 99; do one when x < 99 go 100 set x = x + 1; "
+                + "do four when x < 99 go 100 set x = min(99, x + 4); goal x = 99;");
+        Check.same("as many states as may be", 100, many.count(3));
+        Check.same("the greatest with 24", 0, many.reach(24, false));
+        Check.same("the greatest with 25", 1000000, many.reach(25, false));
+        Check.same("the least with 30", 0, many.reach(30, true));
         MarkovBench at = Tape.compiled(X + A + "goal 1;");
         MarkovBench stuck = Tape.compiled(X + "do a when 0 go 100; goal x;");
         MarkovBench none = Tape.compiled(X + A);
@@ -259,7 +286,8 @@ final class PlayingEdges {
         }
         // Of each state and step its own: once to a dead end, or again.
         MarkovBench each = Tape.compiled("var x = 0 in 0 to 2; do a when x = 0 go 50 set x = 1 also go 50; "
-                + "do b when x = 0 go 60 set x = 1 also go 40 set x = 2; do c when x = 2 go 100; goal x = 1;");
+                + "do b when x = 0 go 60 set x = 1 also go 40 set x = 2; do c when x = 2 go 100; "
+                + "goal x = 1;");
         int[] best = {0, 600000, 800000, 900000};
         for (int steps = 0; steps < 4; steps++) {
             Check.same("the greatest with " + steps, best[steps], each.reach(steps, false));
@@ -324,10 +352,15 @@ final class PlayingEdges {
         }
         Sentences.plain("Promise 27", "- `strategy`: the strategy");
         Sentences.of("Promise 27", "Returns the state in which the play ends.");
-        MarkovBench most = Tape.compiled("var x = 0 in 0 to 99; do far when x = 0 go 100 set x = 1; do a when "
-                + "x > 0 and x < 99 go 100 set x = x + 1;");
+        MarkovBench most = Tape.compiled("var x = 0 in 0 to 99; do far when x = 0 go 100 set x = 1; "
+                + "do a when x > 0 and x < 99 go 100 set x = x + 1;");
         Check.same("the last of 31", 30, most.play(most.solve(30)));
         Check.same("the first one, where nothing is to be done", 0, at().play(0));
+        // By 9 a step it is in the last state long before the 30th one.
+        MarkovBench last = Tape.compiled("var x = 0 in 0 to 99; do up when 1 go 100 set x = min(99, x + 9); "
+                + "do one when x < 99 go 100 set x = x + 1;");
+        Check.same("100 states", 100, last.count(3));
+        Check.same("the greatest value", 99, last.value(last.play(last.solve(30)), 0));
         Sentences.of("Promise 27", "Throws `IndexOutOfBoundsException` if there is no such strategy");
         for (int odd : FAR) {
             Benches.noIndex("strategy " + odd, b -> b.play(odd));
@@ -551,6 +584,7 @@ final class PlayingEdges {
         Check.same("word by word", checksum(List.of(1L, 2L, 3L, 3L, 2L, 7L, thrown, 3L, 9L, 0L, 2L, 1L, 1L,
                 2L, -1L, 2L, 60000L, 0L, 1000000L, 0L, 0L, -1L, 3L, 39000L, 50000L, 1000000L, 1L, 0L, -1L)),
                 two.digest());
+        Check.same("with all its steps left", told(risky(), 0, new int[] {1, 1}, 2), risky().digest());
         two.weigh(0, -9);
         two.drop(0);
         Check.same("with one of them", told(two, thrown, new int[] {-9, 9}, 3), two.digest());

@@ -131,6 +131,7 @@ final class StatesEdges {
                 Check.same("all but the first", choice + 1, most.choice(99, choice, 0));
             }
         }
+        Check.same("all sixteen in the last state", 15, TapeEdges.widest().choice(99, 15, 0));
         Check.same("as many", 16, most.choices(98));
         Check.same("one less", 15, most.choices(99));
     }
@@ -279,6 +280,11 @@ final class StatesEdges {
         Check.same("to the last state", 99, most.branch(98, 0, 0, false));
         Check.same("the last branch stays", 98, most.branch(98, 0, 3, false));
         Check.same("its chance", 25, most.branch(98, 0, 3, true));
+        MarkovBench wide = TapeEdges.widest();
+        Check.same("the last branch of all", 0, wide.branch(99, 15, 3, false));
+        Check.same("the last but one", 99, wide.branch(99, 15, 2, false));
+        Check.same("that of the choice ahead", 99, wide.branch(99, 14, 3, false));
+        Check.same("its chance", 25, wide.branch(99, 15, 3, true));
         Check.same("the last choice of the last state", 99, most.branch(99, 14, 0, false));
         Check.same("its chance", 100, most.branch(99, 14, 0, true));
         Sentences.of("Promise 13",

@@ -201,6 +201,11 @@ final class StrategiesEdges {
         MarkovBench only = Tape.compiled(LOOP + "gain g = " + TO_LEAST + ";");
         solved(only, 1, 1);
         Check.same("the only one is the least", 0, only.takes(0, 0, 1));
+        MarkovBench wide = TapeEdges.widest();
+        solved(wide, 30, 0, 0, 9);
+        Check.same("the last of 16 in the first state", 15, wide.takes(0, 0, 30));
+        Check.same("the last of 16 in the last state", 15, wide.takes(0, 99, 1));
+        Check.same("with its worth", 90000, wide.worth(0, 99, 1));
         // Greatest by what comes later: by 1 of the 10000ths that the division leaves.
         MarkovBench later = Tape.compiled("var x = 0 in 0 to 2; gain g = x; do a when x = 0 go 1 set x = 1 "
                 + "also go 99 set x = 2; do b when x = 0 go 100 set x = 2; do c when x = 0 go 100 set x = 2; "
@@ -457,7 +462,8 @@ final class StrategiesEdges {
         int made = most.solve(1);
         Check.same("the last of 16", 15, most.takes(made, 0, 1));
         Check.same("the first of 15 in the last state", 0, most.takes(made, 99, 1));
-        Sentences.of("Promise 16", "Throws `IndexOutOfBoundsException` if there is no such strategy or state");
+        Sentences.of("Promise 16",
+                "Throws `IndexOutOfBoundsException` if there is no such strategy or state");
         for (int odd : FAR) {
             Benches.noIndex("strategy " + odd, b -> b.takes(odd, 0, 1));
             Benches.noIndex("strategy and left " + odd, b -> b.takes(odd, 0, odd));
@@ -502,7 +508,8 @@ final class StrategiesEdges {
         int made = most.solve(30);
         Check.same("in the last of 100 states", 30 * 9 * 990000L, most.worth(made, 99, 30));
         Check.same("there with 0 left", 0, most.worth(made, 99, 0));
-        Sentences.of("Promise 17", "Throws `IndexOutOfBoundsException` if there is no such strategy or state");
+        Sentences.of("Promise 17",
+                "Throws `IndexOutOfBoundsException` if there is no such strategy or state");
         for (int odd : FAR) {
             Benches.noIndex("strategy " + odd, b -> b.worth(odd, 0, 0));
             Benches.noIndex("strategy " + odd + " with -1 left", b -> b.worth(odd, 0, -1));
@@ -648,6 +655,19 @@ final class StrategiesEdges {
             Check.same("nothing of the other", 0, bench.brings(0, pair[2]) + bench.brings(1, pair[2]));
             Check.same("what the first is worth", 10000, bench.worth(0, 0, 1));
         }
+        for (int[] pair : pairs) {
+            // b brings the first gain, and much more or less of the other, which has no weight.
+            for (int much : new int[] {-5, 5}) {
+                MarkovBench bench = Tape.compiled("var x = 0 in 0 to 1; " + twoOfThree(pair, much)
+                        + "do a when x = 0 go 100 set x = 1; do b when x = 0 go 100 set x = 1;");
+                bench.weigh(pair[2], -9);
+                Check.same("a and b", 2, bench.sweep(pair[0], pair[1], 1, 1));
+                Check.same("a by k 0, where both are worth the same", 0, bench.takes(0, 0, 1));
+                Check.same("b by k 1", 1, bench.takes(1, 0, 1));
+                Check.same("with no weight of the other", 10000, bench.worth(1, 0, 1));
+                Check.same("which it brings", 10000L * much, bench.brings(1, pair[2]));
+            }
+        }
         for (int other = 0; other < 3; other++) {
             // a and b differ by one gain alone; the weights of two others are of no use.
             MarkovBench bench = Tape.compiled("var x = 0 in 0 to 1; " + threeGains(other)
@@ -711,6 +731,15 @@ final class StrategiesEdges {
         return text.toString();
     }
 
+    /** Three gains, of which the command b brings 1 of the first of these and so much of the last. */
+    private static String twoOfThree(int[] which, int much) {
+        String[] gains = new String[3];
+        gains[which[0]] = "gain g" + which[0] + " per b = 1; ";
+        gains[which[1]] = "gain g" + which[1] + " = 0; ";
+        gains[which[2]] = "gain g" + which[2] + " per b = " + much + "; ";
+        return String.join("", gains);
+    }
+
     private static void sweepRefused() {
         Sentences.of("Promise 21", "Throws `IndexOutOfBoundsException` if there is no such gain");
         for (int odd : FAR) {
@@ -744,7 +773,8 @@ final class StrategiesEdges {
             Benches.refused("steps " + odd + " without room", IllegalArgumentException.class,
                     b -> b.sweep(0, 1, 1, odd), Benches::crowded);
         }
-        Sentences.of("Promise 21", "Throws `IllegalStateException` if there would be more than 12 strategies");
+        Sentences.of("Promise 21",
+                "Throws `IllegalStateException` if there would be more than 12 strategies");
         // By one step it makes what slow brings, which is kept, and what fast brings, which is not.
         Benches.noState("one too many", b -> b.sweep(0, 1, 1, 1), Benches::crowded);
         Benches.noState("one too many", b -> b.sweep(1, 0, 9, 1), Benches::crowded);

@@ -43,6 +43,21 @@ final class TapeEdges {
             Check.same("count behind " + calls, 0, bench.count(4));
         }
         Check.same("the 512th call", 2, bench.sweep(0, 1, 9, 2));
+        // However often something is reckoned or compiled, it is the same.
+        MarkovBench again = Tape.compiled(X + A);
+        for (int used = 5; used + 4 <= 512; used += 4) {
+            Check.same("behind " + used, 46L, Tape.reckon(again, "1+2+3+4+5+6+7+8+9+1", 0));
+        }
+        String text = X + "gain g = 1" + " + 1".repeat(29) + "; do a when x < 9 go 100 set x = x + 1"
+                + " + 1 - 1".repeat(14) + "; goal x = 8" + " + 1 - 1".repeat(14) + ";";
+        int each = Tape.fives(text).length + 3;
+        MarkovBench often = new MarkovBench();
+        for (int used = 0; used + each <= 512; used += each) {
+            Check.same("compile behind " + used, 0, Tape.compile(often, text));
+            Check.same("states", 9, often.count(3));
+        }
+        Check.same("its gain", 30, often.gain(7, 0, 0));
+        Check.same("its goal", -1, often.choices(8));
         MarkovBench full = new MarkovBench();
         for (int i = 0; i < 75; i++) {
             feedBlanks(full);
@@ -321,6 +336,22 @@ final class TapeEdges {
         }
         Tape.put(bench, " ".repeat(1500));
         return bench;
+    }
+
+    /** 100 states with 16 choices of 4 branches each; the very last branch leads back to state 0. */
+    static MarkovBench widest() {
+        StringBuilder text = new StringBuilder("var a = 0 in 0 to 99; ");
+        for (String name : new String[] {"b", "c", "d", "e"}) {
+            text.append("var ").append(name).append(" = 0 in 0 to 1; ");
+        }
+        text.append("var f = -99 in -99 to 99; gain g = a; gain h = f; gain i per c15 = 1; ");
+        text.append("do c0 when 1 go 25 set a = min(99, a + 1), f = min(0, f + 1) also go 25 also go 25 "
+                + "also go 25; ");
+        for (int i = 1; i < 16; i++) {
+            text.append("do c").append(i).append(" when 1 go 25 also go 25 also go 25 also go 25");
+            text.append(i == 15 ? " set f = -99, a = 0;" : "; ");
+        }
+        return Tape.compiled(text.toString());
     }
 
     private static void count() {
