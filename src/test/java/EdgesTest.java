@@ -4,7 +4,7 @@
  */
 public final class EdgesTest {
     public static void main(String[] args) {
-        // What the bench is for, and the headings of the calls.
+        // What the bench is for (ReadmeTest goes all of that way once), and the headings of the calls.
         Sentences.plain("What it is", "A bench for decisions under chance with several gains.");
         Sentences.plain("Terms", "A program in a small language tells variables [..] with a die.");
         Sentences.plain("Terms", "Ahead of the calls `feed`, [..] the interface says: ---- programs.");
